@@ -10,6 +10,12 @@ public final class ModelTest {
     private static final String[] MASKS = {"=", "~", "a~", "~b", "a~a", "A~b", "ab~ba", "~~", "=a", "", "*"};
     private static final int[] STRANGE = {-1, 8, 16, 63, 64, 1 << 30, Integer.MIN_VALUE, Integer.MAX_VALUE};
 
+    private static final String[] RARE = {"16 hops", "aged away", "closed when done", "closed when failed",
+        "closed when none", "closed when under way", "distance 15 told", "distance 15 told by the next router",
+        "failed after all tries", "farther by the same way", "found at different hops", "gone", "list full",
+        "listed already", "looked for with no way back", "release lost", "released", "released after drop",
+        "tried again", "zone not known when looked for", "zone not learnt"};
+
     private final Random random;
     private final ZoneNet net;
     private final Model model;
@@ -219,7 +225,9 @@ public final class ModelTest {
             new ModelTest(run).go(seen);
             Check.due("run " + run, true, true);
         }
-        seen.forEach((what, count) -> System.out.println("  " + what + ": " + count));
+        for (String what : RARE) {
+            Check.due("the runs reach: " + what, true, seen.containsKey(what));
+        }
         Check.end();
     }
 }
