@@ -133,6 +133,35 @@ public final class LookupTest {
         Check.due("lookup(17) with ways", 1, Check.lookup(net, 17, "=:=@z"));
     }
 
+    /**
+     * Router 4 is off until the others have counted the way to network 4 up to 15; when it and router 0 are on
+     * again, router 0 takes a stale pair from one that has just lost its entry, and has the zone a tick late.
+     */
+    private static void notWhereTheZoneIsNotKnown() {
+        ZoneNet net = Check.withNetworks(new ZoneNet(0, 0, 0), "z", "z", "z", "z", "z");
+        Check.routers(net, 3, 11, 20, 3, 12);
+        net.node(0, 1);
+        net.node(4, 1);
+        Check.name(net, 33, "x:y");
+        Check.ticks(net, 4);
+        finds(net, "=:=@z", 0);
+        net.power(4, false);
+        Check.ticks(net, 10);
+        net.power(0, false);
+        Check.ticks(net, 4);
+        net.power(4, true);
+        net.tick();
+        net.power(0, true);
+        net.tick();
+        Check.due("there is an entry, zone not known", true, net.route(0, 4) >= 0 && (net.route(0, 4) & 64) == 0);
+        Check.due("there is a way", true, net.hops(0, 4) > 0);
+        Check.due("there is a way back", true, net.hops(4, 0) > 0);
+        finds(net, "=:=@z");
+        net.tick();
+        Check.due("the zone is known", true, (net.route(0, 4) & 64) != 0);
+        finds(net, "=:=@z", 0);
+    }
+
     public static void main(String[] args) {
         masks();
         noPatterns();
@@ -140,6 +169,7 @@ public final class LookupTest {
         theNearestFirst();
         onlyInTheZone();
         notWhereNoWayLeadsBack();
+        notWhereTheZoneIsNotKnown();
         Check.end();
     }
 }
