@@ -1,11 +1,14 @@
+import java.util.ArrayList;
+import java.util.List;
 import java.util.Map;
 import java.util.Random;
 import java.util.TreeMap;
 
 /** Long random runs, the same each time, on a ZoneNet and on the Model: every answer must be the same. */
 public final class ModelTest {
-    private static final int RUNS = 3000;
-    private static final int CALLS = 512;
+    private static final int RUNS = 30000;
+    /** No change, with the texts and the questions that go with it, needs more calls. */
+    private static final int CALLS_OF_A_CHANGE = 64;
     private static final String[] NAMES = {"a", "A", "b", "ab", "aB", "aba", "B b", "z"};
     private static final String[] MASKS = {"=", "~", "a~", "~b", "a~a", "A~b", "ab~ba", "~~", "=a", "", "*"};
     private static final int[] STRANGE = {-1, 8, 16, 63, 64, 1 << 30, Integer.MIN_VALUE, Integer.MAX_VALUE};
@@ -23,13 +26,20 @@ public final class ModelTest {
     private final boolean hostile;
     /** All sessions go to one service, whose list fills up. */
     private final boolean crowded;
+    /** Little but ticks and routers turned off and on, so that ways are counted up to the end. */
+    private final boolean restless;
     private int calls = 0;
+    private final List<Integer> nodes = new ArrayList<>();
+    private int networks = 0;
+    private int services = 0;
+    private int sessions = 0;
 
     private ModelTest(int run) {
         this.run = run;
         random = new Random(run);
         hostile = run % 8 == 0;
         crowded = run % 8 == 1;
+        restless = run % 8 >= 6;
         int interval = random.nextInt();
         int tries = random.nextInt();
         int release = crowded || random.nextInt(3) == 0 ? random.nextInt() : random.nextInt(4);
@@ -62,43 +72,56 @@ public final class ModelTest {
         return random.nextInt(3) == 0 ? pick(NAMES) : MASKS[random.nextInt(random.nextInt(8) == 0 ? MASKS.length : 7)];
     }
 
+    /** One of those that are there or, seldom, the next one. */
+    private int among(int count) {
+        return below(Math.max(1, random.nextInt(20) == 0 ? count + 1 : count));
+    }
+
     private int service() {
-        return below(crowded ? 1 : 12);
+        return crowded ? below(1) : among(services);
     }
 
     private int address() {
-        return 8 * random.nextInt(6) + 1 + random.nextInt(3);
+        return nodes.isEmpty() || random.nextInt(20) == 0 ? below(64) : nodes.get(random.nextInt(nodes.size()));
     }
 
     private void makeNetwork() {
         type(random.nextInt(20) == 0 ? "a:b" : random.nextInt(3) == 0 ? pick(NAMES) : "a");
-        same("network", model.network(), net.network());
+        int made = model.network();
+        same("network", made, net.network());
+        networks = Math.max(networks, made + 1);
     }
 
     private void makeRouter() {
         int mask = 0;
         int ports = random.nextInt(12) == 0 ? 1 + random.nextInt(5) : 2 + random.nextInt(2);
         for (int i = 0; i < ports; i++) {
-            mask |= 1 << below(6);
+            mask |= 1 << among(networks);
         }
         same("router " + mask, model.router(mask), net.router(mask));
     }
 
     private void makeNode() {
-        int network = below(6);
+        int network = among(networks);
         int wish = random.nextInt(12) == 0 ? below(9) : 1 + random.nextInt(3);
-        same("node", model.node(network, wish), net.node(network, wish));
+        int made = model.node(network, wish);
+        same("node", made, net.node(network, wish));
+        if (made >= 0) {
+            nodes.add(made);
+        }
     }
 
     private void makeService() {
         type(random.nextInt(20) == 0 ? mask() + ":" + mask() : pick(NAMES) + ":" + pick(NAMES));
-        int address = random.nextInt(20) == 0 ? below(64) : address();
-        same("name", model.name(address), net.name(address));
+        int address = address();
+        int made = model.name(address);
+        same("name", made, net.name(address));
+        services = Math.max(services, made + 1);
     }
 
     private void lookUp() {
         type(mask() + ":" + mask() + "@" + (random.nextBoolean() ? "*" : random.nextInt(9) == 0 ? mask() : pick(NAMES)));
-        lookUpFrom(random.nextInt(20) == 0 ? below(64) : address());
+        lookUpFrom(address());
     }
 
     private void lookUpFrom(int address) {
@@ -115,7 +138,7 @@ public final class ModelTest {
             for (int network = 0; network < 8; network++) {
                 int entry = model.route(router, network);
                 if (entry >= 0 && (entry & 64) == 0) {
-                    for (int from = 0; from < 8; from++) {
+                    for (int from = 0; from < 8 && hasRoom(); from++) {
                         type("=:=@a");
                         lookUpFrom(8 * from + 1);
                     }
@@ -124,8 +147,16 @@ public final class ModelTest {
         }
     }
 
+    private void openSession() {
+        int address = address();
+        int service = service();
+        int opened = model.open(address, service);
+        same("open", opened, net.open(address, service));
+        sessions = Math.max(sessions, opened + 1);
+    }
+
     private void giveCommand() {
-        int session = below(12);
+        int session = among(sessions);
         int key = random.nextInt(20) == 0 ? below(9) : random.nextInt(8);
         int parts = random.nextInt(20) == 0 ? below(10) : 1 + random.nextInt(8);
         int value = random.nextInt();
@@ -141,6 +172,7 @@ public final class ModelTest {
         };
         model.faults(bits);
         net.faults(bits);
+        calls++;
     }
 
     private void turn() {
@@ -150,7 +182,12 @@ public final class ModelTest {
     }
 
     private void change() {
-        int kind = crowded && random.nextBoolean() ? 70 + random.nextInt(28) : random.nextInt(100);
+        int kind = random.nextInt(100);
+        if (crowded && random.nextBoolean()) {
+            kind = 70 + random.nextInt(28);
+        } else if (restless && random.nextInt(8) != 0) {
+            kind = 19 + random.nextInt(51);
+        }
         if (kind < 3) {
             makeNetwork();
         } else if (kind < 5) {
@@ -170,9 +207,7 @@ public final class ModelTest {
         } else if (kind < 70) {
             turn();
         } else if (kind < 77) {
-            int address = address();
-            int service = service();
-            same("open", model.open(address, service), net.open(address, service));
+            openSession();
         } else if (kind < 95) {
             giveCommand();
         } else if (kind < 98) {
@@ -183,22 +218,39 @@ public final class ModelTest {
         }
     }
 
-    private void compareAll() {
-        for (int i = -1; i < 9; i++) {
-            for (int k = -1; k < 9; k++) {
-                same("route(" + i + ", " + k + ")", model.route(i, k), net.route(i, k));
-                same("hops(" + i + ", " + k + ")", model.hops(i, k), net.hops(i, k));
-            }
+    private void ask() {
+        int kind = random.nextInt(20);
+        if (kind < 7) {
+            int router = below(6);
+            int network = among(networks);
+            same("route(" + router + ", " + network + ")", model.route(router, network), net.route(router, network));
+        } else if (kind < 10) {
+            int a = among(networks);
+            int b = among(networks);
+            same("hops(" + a + ", " + b + ")", model.hops(a, b), net.hops(a, b));
+        } else if (kind < 15) {
+            askOfASession(among(sessions), kind - 10);
+        } else if (kind < 19) {
+            int service = service();
+            int key = below(6);
+            same("ledger(" + service + ", " + key + ")", model.ledger(service, key), net.ledger(service, key));
+        } else {
+            same("packets", model.packets(), net.packets());
         }
-        for (int i = -1; i < 17; i++) {
-            for (int key = -1; key < 7; key++) {
-                same("ledger(" + i + ", " + key + ")", model.ledger(i, key), net.ledger(i, key));
-            }
-            same("status(" + i + ")", model.status(i), net.status(i));
-            same("reply(" + i + ")", model.reply(i), net.reply(i));
-            same("missing(" + i + ")", model.missing(i), net.missing(i));
+    }
+
+    private void askOfASession(int session, int kind) {
+        if (kind < 2) {
+            same("status(" + session + ")", model.status(session), net.status(session));
+        } else if (kind < 4) {
+            same("missing(" + session + ")", model.missing(session), net.missing(session));
+        } else {
+            same("reply(" + session + ")", model.reply(session), net.reply(session));
         }
-        same("packets", model.packets(), net.packets());
+    }
+
+    private boolean hasRoom() {
+        return calls + CALLS_OF_A_CHANGE <= Net.MOST_CALLS;
     }
 
     private void go(Map<String, Integer> seen) {
@@ -209,13 +261,16 @@ public final class ModelTest {
         for (int i = 0; i < 3 + random.nextInt(4); i++) {
             makeRouter();
         }
-        for (int i = 0; i < CALLS && calls < 100 * CALLS; i++) {
-            change();
-            if (i % 8 == 0) {
-                compareAll();
-            }
+        for (int i = 0; i < 3; i++) {
+            makeService();
         }
-        compareAll();
+        while (hasRoom()) {
+            change();
+            ask();
+        }
+        while (calls < Net.MOST_CALLS) {
+            ask();
+        }
         model.seen.forEach((what, count) -> seen.merge(what, count, Integer::sum));
     }
 

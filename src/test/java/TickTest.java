@@ -1,115 +1,134 @@
-/** Promise 11 and the steps 1 to 4 of a tick: telling, ageing, taking and zones. */
+/** Promise 11 and the first steps of a tick: what is told, how much of it, and how entries age. */
 public final class TickTest {
-    private static int entry(int distance, int next, int port) {
-        return distance + 64 + 128 * (1 + next) + 1024 * port;
-    }
-
+    /** "on each of its ports p, a PAIR .. for each of its entries whose port is not p": 2 to 4 ports. */
     private static void pairsOfOneRouter() {
         int[] masks = {3, 7, 15};
         int[] due = {2, 6, 12};
         for (int i = 0; i < masks.length; i++) {
-            ZoneNet net = Check.withNetworks(new ZoneNet(0, 0, 0), "a", "b", "c", "d");
-            Check.due("a tick without routers", 0, net.tick());
-            Check.routers(net, masks[i]);
+            Net net = Net.mesh(4, masks[i]);
             Check.due("tick with the mask " + masks[i], due[i], net.tick());
-            net.power(0, false);
-            Check.due("tick with the router off", 0, net.tick());
-            net.power(0, true);
-            Check.due("tick with the router on", due[i], net.tick());
+            Check.due("tick 2 with the mask " + masks[i], due[i], net.tick());
         }
     }
 
-    private static ZoneNet chain() {
-        ZoneNet net = Check.withNetworks(new ZoneNet(0, 0, 0), "a", "b", "c", "d", "e");
-        Check.routers(net, 3, 6, 12, 24);
-        return net;
+    /** "A router that is on tells" */
+    private static void onlyThoseThatAreOnTell() {
+        Net net = Net.mesh(4);
+        Check.due("a tick without routers", 0, net.tick());
+        net.routers(3, 14);
+        Check.due("both on", 8, net.again().tick());
+        Check.due("the first off", 6, net.again().go("-0").tick());
+        Check.due("the second off", 2, net.again().go("-1").tick());
+        Check.due("both off", 0, net.again().go("-0 -1").tick());
+        Check.due("both on anew", 8, net.go("-0 -1 +0 +1").tick());
     }
 
-    /** What is told is as the tables are before the tick: news goes one router a tick. */
+    /** "(a pair told on two ports is two pairs, and one that no router takes is one too)" */
+    private static void countedOnEachPort() {
+        Net net = Net.mesh(6, 3, 14);
+        Check.due("own entries: 2 * 1 + 3 * 2", 8, net.tick());
+        Check.due("with 2 entries more for router 0, 1 more for router 1", 12, net.tick());
+        Check.due("a router that nobody hears", 2, net.router(48));
+        Check.due("two more pairs", 14, net.tick());
+    }
+
+    /** The same for entries that are SUSPECT and BAD: told up to their removal, as GONE in the end. */
+    private static void agedEntriesAreTold() {
+        Net net = Net.mesh(3, 3, 6).go("t2 -1");
+        int[] due = {3, 3, 3, 3, 3, 3, 2};
+        for (int i = 0; i < due.length; i++) {
+            Check.due("tick " + (i + 3), due[i], net.tick());
+        }
+    }
+
+    /** "whose port is not p": a router does not tell on a port what it has from there. */
+    private static void notOnTheEntrysOwnPort() {
+        Net net = Net.mesh(3, 3, 6).go("t");
+        Entry.due(net, 1, 0, "1>0@1");
+        Entry.due(net.go("-0 t6"), 1, 0, "-");
+
+        net = Net.mesh(3, 3, 3, 7).go("t -2 t3");
+        Entry.due(net, 0, 2, "2>1@0");
+        Entry.due(net, 1, 2, "2>0@0");
+    }
+
+    /** "instead of the distance of a BAD entry it tells GONE": SUSPECT ones are told with their distance. */
+    private static void goneForBadOnesAlone() {
+        Net net = Net.mesh(4, 5, 10, 12).go("t -0 t");
+        Entry.due(net, 2, 0, "1S>0@2");
+        Entry.due(net.go("t"), 1, 0, "2>2@3");
+        Entry.due(net.go("t"), 2, 0, "1B>0@2");
+        Entry.due(net, 1, 0, "2>2@3");
+        Entry.due(net.go("t"), 1, 0, "2B>2@3");
+    }
+
+    /** "What is told is as the tables are before the tick.": news goes one router a tick. */
     private static void newsGoOneRouterATick() {
-        ZoneNet net = chain();
+        Net net = Net.mesh(5, 3, 6, 12, 24);
         int[] pairs = {8, 14, 18, 20, 20};
         for (int tick = 0; tick < pairs.length; tick++) {
             Check.due("tick " + (tick + 1), pairs[tick], net.tick());
             for (int k = 2; k < 5; k++) {
-                int due = tick >= k - 2 ? entry(k - 1, 1, 1) : -1;
-                Check.due("route(0, " + k + ") after tick " + (tick + 1), due, net.route(0, k));
+                Entry.due(net, 0, k, tick >= k - 2 ? k - 1 + ">1@1" : "-");
             }
             for (int k = 2; k >= 0; k--) {
-                int due = tick >= 2 - k ? entry(3 - k, 2, 3) : -1;
-                Check.due("route(3, " + k + ") after tick " + (tick + 1), due, net.route(3, k));
+                Entry.due(net, 3, k, tick >= 2 - k ? 3 - k + ">2@3" : "-");
             }
         }
     }
 
-    private static void goneIsTold() {
-        ZoneNet net = Check.withNetworks(new ZoneNet(0, 0, 0), "a", "b", "c", "d");
-        Check.routers(net, 3, 6, 12);
-        Check.ticks(net, 4);
-        net.power(2, false);
-        int near = entry(1, 2, 2);
-        int far = entry(2, 1, 1);
-        int[] dueNear = {near, near + 16, near + 16, near + 32, near + 32, -1};
-        int[] dueFar = {far, far, far, far, far + 32, -1};
-        for (int i = 0; i < dueNear.length; i++) {
-            Check.due("tick " + (i + 5), 8, net.tick());
-            Check.due("route(1, 3) after tick " + (i + 5), dueNear[i], net.route(1, 3));
-            Check.due("route(0, 3) after tick " + (i + 5), dueFar[i], net.route(0, 3));
+    /** The same: in tick 4 the entries of both routers become BAD, but they still tell one another the distance 1. */
+    private static void toldAsBeforeTheAgeing() {
+        Net net = Net.mesh(3, 3, 6, 6).go("t -0 t2");
+        Entry.due(net, 1, 0, "1S>0@1");
+        Entry.due(net, 2, 0, "1S>0@1");
+        net.go("t");
+        Entry.due(net, 1, 0, "2>2@2");
+        Entry.due(net, 2, 0, "2>1@2");
+    }
+
+    /** "AGEING, if the tick's number is even": GOOD, SUSPECT, BAD, removed, and nothing of it in an odd tick. */
+    private static void inEvenTicks() {
+        String[] due = {"1>1@1", "1S>1@1", "1S>1@1", "1B>1@1", "1B>1@1", "-", "-"};
+        Net net = Net.mesh(3, 3, 6).go("t -1");
+        for (int tick = 2; tick <= 7; tick++) {
+            Entry.due(net.go("t"), 0, 2, due[tick - 1]);
         }
-        Check.due("tick 11", 6, net.tick());
+        net = Net.mesh(3, 3, 6).go("t2 -1");
+        for (int tick = 3; tick <= 9; tick++) {
+            Entry.due(net.go("t"), 0, 2, due[tick - 3]);
+        }
     }
 
-    private static void atTheSameDistanceTheLaterOneIsTaken() {
-        ZoneNet net = Check.withNetworks(new ZoneNet(0, 0, 0), "a", "b", "c");
-        Check.routers(net, 3, 6, 6);
-        net.tick();
-        Check.due("route(0, 2), two ways", entry(1, 2, 1), net.route(0, 2));
-        Check.due("route(1, 0)", entry(1, 0, 1), net.route(1, 0));
-
-        net = Check.withNetworks(new ZoneNet(0, 0, 0), "a", "b", "c");
-        Check.routers(net, 3, 7);
-        net.tick();
-        Check.due("route(0, 2), one router on two ports", entry(1, 1, 1), net.route(0, 2));
-        Check.due("an own entry is not changed", 64 + 1024, net.route(0, 1));
+    /** "every entry that is not an own one": own ones do not age. */
+    private static void ownEntriesDoNotAge() {
+        Net net = Net.mesh(3, 3, 6).go("-1");
+        for (int tick = 1; tick <= 8; tick++) {
+            Entry.table(net.go("t"), 0, "0@0 0@1 -");
+        }
     }
 
-    /** Router 1 loses the short way to network 3 by router 2 and takes the longer one by 3 and 4. */
-    private static void fartherByTheSameWay() {
-        ZoneNet net = Check.withNetworks(new ZoneNet(0, 0, 0), "a", "b", "c", "d", "e");
-        Check.routers(net, 3, 6, 12, 20, 24);
-        Check.ticks(net, 4);
-        Check.due("route(1, 3)", entry(1, 2, 2), net.route(1, 3));
-        Check.due("route(0, 3)", entry(2, 1, 1), net.route(0, 3));
-        net.power(2, false);
-        Check.ticks(net, 3);
-        Check.due("route(1, 3) after tick 7", entry(1, 2, 2) + 16, net.route(1, 3));
-        net.tick();
-        Check.due("route(1, 3) after tick 8", entry(2, 3, 2), net.route(1, 3));
-        Check.due("route(0, 3) after tick 8", entry(2, 1, 1), net.route(0, 3));
-        net.tick();
-        Check.due("route(0, 3) after tick 9", entry(3, 1, 1), net.route(0, 3));
-    }
-
-    private static void nothingIsToldOnTheEntrysOwnPort() {
-        ZoneNet net = Check.withNetworks(new ZoneNet(0, 0, 0), "a", "b", "c");
-        Check.routers(net, 3, 6);
-        net.tick();
-        net.power(1, false);
-        net.power(1, true);
-        net.tick();
-        Check.due("route(1, 0)", entry(1, 0, 1), net.route(1, 0));
-        net.power(0, false);
-        Check.ticks(net, 6);
-        Check.due("route(1, 0) is not told back by anyone", -1, net.route(1, 0));
+    /** "each step for everything before the next step": an entry that ages and is told again in one tick is GOOD. */
+    private static void ageingBeforeTaking() {
+        Net net = Net.mesh(3, 3, 6);
+        for (int tick = 1; tick <= 8; tick++) {
+            Entry.due(net.go("t"), 0, 2, "1>1@1");
+            Entry.due(net, 1, 0, "1>0@1");
+        }
     }
 
     public static void main(String[] args) {
         pairsOfOneRouter();
+        onlyThoseThatAreOnTell();
+        countedOnEachPort();
+        agedEntriesAreTold();
+        notOnTheEntrysOwnPort();
+        goneForBadOnesAlone();
         newsGoOneRouterATick();
-        goneIsTold();
-        atTheSameDistanceTheLaterOneIsTaken();
-        fartherByTheSameWay();
-        nothingIsToldOnTheEntrysOwnPort();
+        toldAsBeforeTheAgeing();
+        inEvenTicks();
+        ownEntriesDoNotAge();
+        ageingBeforeTaking();
         Check.end();
     }
 }
