@@ -652,7 +652,7 @@ public final class ZoneNet {
             for (int r = 0; r < routerCount; r++) {
                 for (int k = 0; k < networkCount; k++) {
                     Entry entry = routers[r].table[k];
-                    if (entry.there && !entry.zoneKnown) {
+                    if (entry.there && !entry.zoneKnown && hasRouter(entry.next)) {
                         entry.zoneKnown = routers[entry.next].table[k].zoneWasKnown;
                     }
                 }

@@ -30,6 +30,11 @@ public final class CommandTest {
     /** "-2 if its latest command is under way": not when it is done, nor when it has failed. */
     private static void underWay() {
         refused(Scene.rich(), Scene.UNDER_WAY, 4, 1, -2);
+        refused(Scene.rich(), Scene.NOT_HEARD, 4, 1, -2);
+        Net silent = Net.session(3, 3, 15).go("-0 t3");
+        Check.due("command in silence", 0, silent.command(0, 4, 1, 1));
+        refused(silent, 0, 4, 1, -2);
+        refused(silent.go("t"), 0, 4, 1, -2);
         Net net = Net.session(0, 0, 15);
         net.faults(1);
         Check.due("command", 0, net.command(0, 4, 1, 1));

@@ -92,20 +92,28 @@ public final class LookupTest {
         finds(net, 1, "=:=@z", 0);
     }
 
-    /** "and there is a way from n to t": the entry's next router is off, or on anew. */
-    private static void aWay() {
-        Net net = row().go("t2");
-        Entry.due(net, 0, 2, "1>1@1");
-        finds(net, 1, "=:=@z", 0);
-        finds(net.go("-1"), 1, "=:=@z");
-        Check.due("hops(0, 2)", -1, net.hops(0, 2));
-    }
-
-    /** The same: a SUSPECT entry is a way. Router 3 knows it, and the way back is by the routers 1 and 2. */
-    private static void aWayByASuspectEntry() {
+    /** From network 0 it goes to 2 by the routers 0 and 3, and back by 1 and 2. */
+    private static Net ring() {
         Net net = new Net().zones("z", "y", "z", "x").routers(3, 12, 9, 6).nodes(1, 17);
         Check.due("x:y", 0, net.name(17, "x:y"));
-        net.go("t3 -3 t +3");
+        return net.go("t3");
+    }
+
+    /** "and there is a way from n to t": the first router's entry is GOOD, but its next router is off. */
+    private static void aWay() {
+        Net net = ring();
+        Entry.due(net, 0, 2, "1>3@1");
+        finds(net, 1, "=:=@z", 0);
+        net.go("-3");
+        Entry.due(net, 0, 2, "1>3@1");
+        Check.due("hops(0, 2)", -1, net.hops(0, 2));
+        Check.due("hops(2, 0)", 2, net.hops(2, 0));
+        finds(net, 1, "=:=@z");
+    }
+
+    /** The same: a SUSPECT entry is a way. */
+    private static void aWayByASuspectEntry() {
+        Net net = ring().go("-3 t +3");
         Entry.due(net, 0, 2, "1S>3@1");
         Check.due("hops(0, 2)", 2, net.hops(0, 2));
         Check.due("hops(2, 0)", 2, net.hops(2, 0));

@@ -185,17 +185,18 @@ final class Refused {
     }
 
     private static void time(Net net, List<Long> answers) {
-        for (int i = 0; i < 18; i++) {
+        for (int i = 0; i < 16; i++) {
             answers.add((long) net.tick());
             answers.add((long) net.packets());
             answers.add((long) net.route(0, 2));
             answers.add((long) net.ledger(0, 5));
-            answers.add((long) net.ledger(1, 5));
-            for (int session = 0; session < 4; session++) {
+            answers.add((long) net.ledger(2, 5));
+            for (int session = 0; session < 5; session++) {
                 answers.add((long) net.status(session));
                 answers.add((long) net.missing(session));
             }
         }
+        ledgers(net, answers);
     }
 
     private static void power(Net net, List<Long> answers) {

@@ -5,10 +5,11 @@ final class Scene {
     static final int ROUTERS = 3;
     static final int SERVICES = 4;
     static final int DROPPED = 3;
-    static final int SESSIONS = 4;
+    static final int SESSIONS = 5;
     static final int UNDER_WAY = 1;
     static final int CLOSED = 2;
-    static final int NO_COMMAND = 3;
+    static final int NOT_HEARD = 3;
+    static final int NO_COMMAND = 4;
     static final int OFF = 2;
 
     private Scene() {
@@ -16,7 +17,8 @@ final class Scene {
 
     /**
      * No limit is reached: networks 0, 1 and 2 in a row, a router that is off, a dropped service; session 0 done,
-     * 1 under way with the parts 0 and 2 missing, 2 closed, 3 with no command; a lookup that found, and faults left.
+     * 1 under way with the parts 0 and 2 missing, 2 closed, 3 under way with its request lost, 4 with no command; a
+     * lookup that found, and faults left.
      */
     static Net rich() {
         Net net = new Net(2, 3, 9).zones("a", "b", "A").routers(3, 6, 5).nodes(1, 10, 19, 20);
@@ -32,12 +34,16 @@ final class Scene {
         net.go("-1 t5");
         Check.due("the closed session", 4, net.status(CLOSED));
         net.go("+1 t2");
+        Check.due("open(19, 0)", NOT_HEARD, net.open(19, 0));
         Check.due("open(20, 0)", NO_COMMAND, net.open(20, 0));
         Check.due("command", 0, net.command(0, 5, 7, 2));
         Check.due("lookup", 2, net.lookup(1, "te~:=@*"));
         net.faults(0b1010);
         Check.due("command", 0, net.command(UNDER_WAY, 6, 9, 3));
         Check.due("missing parts", 5, net.missing(UNDER_WAY));
+        net.faults(1);
+        Check.due("command", 0, net.command(NOT_HEARD, 7, 8, 2));
+        Check.due("commands done", 1, net.ledger(0, 4));
         net.faults(0b1100110);
         return net;
     }
