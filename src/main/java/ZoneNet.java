@@ -236,7 +236,8 @@ public final class ZoneNet {
         for (int hops = 0; hops <= MOST_HOPS; hops++) {
             for (int s = 0; s < serviceCount; s++) {
                 Service service = services[s];
-                if (hopsToNetwork[service.network] == hops && service.fits(pattern)) {
+                boolean isFound = hopsToNetwork[service.network] == hops && service.fits(pattern);
+                if (isFound && count < into.length) {
                     into[count++] = s;
                 }
             }
@@ -588,7 +589,7 @@ public final class ZoneNet {
                 return 0;
             }
             int router = firstRouter(from);
-            for (int hops = 1; hops <= MOST_HOPS && router != NONE; hops++) {
+            for (int hops = 1; hops <= MOST_HOPS && hasRouter(router); hops++) {
                 Entry entry = routers[router].table[to];
                 if (!entry.there || entry.health == BAD) {
                     return NONE;
